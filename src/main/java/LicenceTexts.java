@@ -139,10 +139,11 @@ public final class LicenceTexts {
 
     public int table(int day, int t, int k) throws IndexOutOfBoundsException {
         Edition edition = editionOn(day);
-        if (edition == null || !edition.tables.has(t, k)) {
+        int number = edition == null ? NONE : edition.tables.numberAt(t, k);
+        if (number == NONE) {
             throw new IndexOutOfBoundsException("no such table or number");
         }
-        return edition.tables.numberAt(t, k);
+        return number;
     }
 
     public int allowed(int day, int name, int most) {
@@ -151,7 +152,13 @@ public final class LicenceTexts {
         }
         boolean told = facts.isTold(name);
         long value = facts.valueOf(name);
-        int greatest = greatestAllowed(day, name, most);
+        int greatest = NONE;
+        for (int v = most; v >= 0 && greatest == NONE; v--) {
+            facts.put(name, v, true);
+            if (look(day, trial) == 0) {
+                greatest = v;
+            }
+        }
         facts.put(name, value, told);
         return greatest;
     }
@@ -224,16 +231,6 @@ public final class LicenceTexts {
             }
         }
         return into.answer();
-    }
-
-    private int greatestAllowed(int day, int name, int most) {
-        for (int v = most; v >= 0; v--) {
-            facts.put(name, v, true);
-            if (look(day, trial) == 0) {
-                return v;
-            }
-        }
-        return NONE;
     }
 
     /** A row of at most as many bytes as the tape may have. */
@@ -456,12 +453,9 @@ public final class LicenceTexts {
             return true;
         }
 
-        boolean has(int t, long k) {
-            return t >= 0 && t < count && t < sizes.length && k >= 0 && k < sizes[t];
-        }
-
+        /** Number k of table t; NONE, which no table holds, when there is none such. */
         int numberAt(int t, long k) {
-            if (!has(t, k)) {
+            if (t < 0 || t >= count || t >= sizes.length || k < 0 || k >= sizes[t]) {
                 return NONE;
             }
             int place = t * MOST_NUMBERS + (int) k;
@@ -550,6 +544,11 @@ public final class LicenceTexts {
         private static final int FACT_NAME = 3;
         private static final int TABLE_NAME = 4;
         private static final int BEHIND_ATOM = 5;
+
+        // How closely what waits binds; a BRACKET stays until it is closed.
+        private static final int SUMS = 1;
+        private static final int TERMS = 2;
+        private static final int PLACES = 3;
 
         private final Edition edition;
         private final Words words;
@@ -672,21 +671,12 @@ public final class LicenceTexts {
             if (around > 0) {
                 return words.is(w, ")") && closeBracket();
             }
-            return relation == NONE ? takeRelation(w) : takeBehindCondition(w);
-        }
-
-        private boolean takeRelation(int w) {
-            relation = relationAt(w);
+            settle(SUMS);
             if (relation == NONE) {
-                return false;
+                relation = relationAt(w);
+                awaited = ATOM;
+                return relation != NONE;
             }
-            settle(1);
-            awaited = ATOM;
-            return true;
-        }
-
-        private boolean takeBehindCondition(int w) {
-            settle(1);
             steps.add(relation, NONE);
             relation = NONE;
             if (words.is(w, "and")) {
@@ -723,51 +713,48 @@ public final class LicenceTexts {
         }
 
         private boolean closeBracket() {
-            settle(1);
-            if (lastWaiting() != BRACKET) {
+            settle(SUMS);
+            if (waiting.kindAt(waiting.count - 1) != BRACKET) {
                 return false;
             }
             waiting.removeLast();
             around--;
-            endAtom();
+            settle(PLACES);
             return true;
         }
 
         /** With an ATOM the places end whose ATOM it is. */
         private void endAtom() {
-            for (int n = waiting.count; n > 0 && lastWaiting() == PLACE; n--) {
-                moveWaiting();
-                around--;
-            }
+            settle(PLACES);
             awaited = BEHIND_ATOM;
         }
 
-        /** Operators that bind as closely as that rank, or closer, wait no longer. */
+        /** What binds as closely as that rank, or closer, waits no longer. */
         private void settle(int rank) {
-            for (int n = waiting.count; n > 0 && rankOf(lastWaiting()) >= rank; n--) {
-                moveWaiting();
+            for (int last = waiting.count - 1; last >= 0; last--) {
+                int kind = waiting.kindAt(last);
+                if (rankOf(kind) < rank) {
+                    return;
+                }
+                steps.add(kind, waiting.valueAt(last));
+                waiting.removeLast();
+                if (kind == PLACE) {
+                    around--;
+                }
             }
-        }
-
-        private int lastWaiting() {
-            return waiting.kindAt(waiting.count - 1);
-        }
-
-        private void moveWaiting() {
-            int last = waiting.count - 1;
-            steps.add(waiting.kindAt(last), waiting.valueAt(last));
-            waiting.removeLast();
         }
 
         private static int rankOf(int kind) {
             switch (kind) {
                 case PLUS:
                 case MINUS:
-                    return 1;
+                    return SUMS;
                 case TIMES:
                 case OVER:
                 case REST:
-                    return 2;
+                    return TERMS;
+                case PLACE:
+                    return PLACES;
                 default:
                     return 0;
             }
@@ -827,11 +814,11 @@ public final class LicenceTexts {
         }
 
         boolean isTold(int name) {
-            return has(name) && told[name];
+            return name >= 0 && name < told.length && told[name];
         }
 
         long valueOf(int name) {
-            return has(name) ? values[name] : 0;
+            return name >= 0 && name < values.length ? values[name] : 0;
         }
 
         int clear() {
@@ -933,12 +920,12 @@ public final class LicenceTexts {
         }
 
         private boolean pushPlace(Tables tables, int t) {
-            long k = pop();
-            if (!tables.has(t, k)) {
+            int number = tables.numberAt(t, pop());
+            if (number == NONE) {
                 reason = NO_PLACE;
                 return false;
             }
-            push(tables.numberAt(t, k));
+            push(number);
             return true;
         }
 

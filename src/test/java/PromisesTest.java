@@ -230,6 +230,15 @@ public final class PromisesTest {
         Checks.feed(x, "y");
         Checks.due("none above the last day", x.read(100001), REFUSED);
 
+        LicenceTexts again = new LicenceTexts();
+        Checks.due("a wrong text", Checks.readText(again, 0, "rule 1 = 1 ; table"), -7);
+        Checks.due("nothing of it stays", Checks.readText(again, 0, "rule 1 = 2 ;"), 1);
+        Checks.due("a wrong text again", Checks.readText(again, 1, "y"), -1);
+        for (int i = 0; i < 800; i++) {
+            Checks.due("its tape is empty", again.unit('z'), true);
+        }
+        Checks.due("one long word", again.read(1), -1);
+
         LicenceTexts six = new LicenceTexts();
         for (int d = 0; d < 6; d++) {
             Checks.due("day " + d, six.read(d), 0);
@@ -670,6 +679,12 @@ public final class PromisesTest {
             dueShare(x, 3, far, NONE, NONE);
             Checks.due("far part", x.byCatch(3, 0, far), NONE);
         }
+        x.haul(4, 0, 5);
+        dueShare(x, 3, 0, 7, 12);
+        x.haul(0, 0, 3);
+        x.haul(0, 7, 6);
+        dueShare(x, 0, 0, 1, 3);
+        dueShare(x, 0, 7, 2, 3);
         x.haul(5, 7, 1000000000L);
         dueShare(x, 5, 7, 1, 1);
         for (int i = 0; i < 400; i++) {
