@@ -2,17 +2,22 @@ import java.util.ArrayList;
 import java.util.List;
 import java.util.Random;
 
-/** Random runs of calls on the class and on the model, with the same seed every time. */
+/**
+ * Random runs of at most 512 calls on the class and on the model, with the same seeds every time.
+ */
 public final class ModelTest {
-    private static final int RUNS = 6000;
+    private static final int RUNS = 60000;
+    // At most so many calls has a look; and a round besides its text and its looks.
+    private static final int LOOK_CALLS = 40;
+    private static final int ROUND_CALLS = 24;
     private static final String[] WORDS = {"table", "rule", "when", "need", "and", ";", "(", ")", "fact", "at", "+",
         "-", "*", "/", "%", "<", "<=", "=", "/=", "0", "1", "7", "19", "20", "007", "123456789", "1234567890", "x",
         "=<", "1x"};
     private static final long[] VALUES = {0, 1, 2, 3, -1, -2, 5, 10, 20, Long.MAX_VALUE, Long.MIN_VALUE, 1L << 32};
 
     private final Random random;
-    private LicenceTexts x;
-    private Model model;
+    private final Counted x;
+    private final Model model;
     private int day;
     private int tables;
     private static int texts = 0;
@@ -21,7 +26,7 @@ public final class ModelTest {
 
     private ModelTest(long seed) {
         random = new Random(seed);
-        x = new LicenceTexts();
+        x = new Counted();
         model = new Model();
         day = random.nextInt(5) - 1;
     }
@@ -36,16 +41,17 @@ public final class ModelTest {
     }
 
     private void run() {
-        for (int round = 0; round < 9; round++) {
-            feed(text());
+        while (x.callsLeft() >= ROUND_CALLS) {
+            String tape = tapeOf(text());
+            feed(tape.substring(0, Math.min(tape.length(), x.callsLeft() - ROUND_CALLS)));
             readEdition();
-            for (int i = random.nextInt(8); i > 0; i--) {
+            for (int i = below(13); i > 0; i--) {
                 tell();
             }
-            for (int i = 0; i < 6; i++) {
+            fish();
+            for (int i = below(6); i > 0 && x.callsLeft() >= LOOK_CALLS; i--) {
                 look();
             }
-            fish();
         }
     }
 
@@ -63,12 +69,15 @@ public final class ModelTest {
         return below(10) == 0 ? near(100000) : day - 4 + below(8);
     }
 
-    private void feed(List<String> words) {
+    private String tapeOf(List<String> words) {
         StringBuilder s = new StringBuilder();
         for (String word : words) {
             s.append(below(12) == 0 ? (below(2) == 0 ? "\n" : " \n ") : " ").append(word);
         }
-        String text = s.substring(Math.min(s.length(), below(2)));
+        return s.substring(Math.min(s.length(), below(2)));
+    }
+
+    private void feed(String text) {
         for (int i = 0; i < text.length(); i++) {
             int u = text.charAt(i) + 256 * (below(5) - 2);
             Checks.due("unit(" + u + ")", x.unit(u), model.unit(u));
@@ -117,31 +126,32 @@ public final class ModelTest {
         Checks.due("table(" + on + ", " + t + ", " + k + ")", tableOf(on, t, k), model.table(on, t, k));
         int rule = near(4);
         Checks.due("write(" + on + ", " + rule + ")", x.write(on, rule), model.write(on, rule));
-        for (int i = -1; i < 60; i++) {
-            Checks.due("written(" + i + ")", x.written(i), model.written(i));
+        for (int i = 0; i < 5; i++) {
+            int at = near(60);
+            Checks.due("written(" + at + ")", x.written(at), model.written(at));
         }
     }
 
     private void found() {
-        for (int rule = -1; rule < 13; rule++) {
-            int outcome = x.explain(rule);
-            Checks.due("explain(" + rule + ")", outcome, model.explain(rule));
+        for (int rule = -1; rule < 6; rule++) {
+            int at = rule < 5 ? rule : near(12);
+            int outcome = x.explain(at);
+            Checks.due("explain(" + at + ")", outcome, model.explain(at));
             if (outcome >= 0) {
                 outcomes[outcome]++;
             }
-            for (int what = -1; what < 4; what++) {
-                Checks.due("broken(" + rule + ", " + what + ")", x.broken(rule, what), model.broken(rule, what));
-                Checks.due("open(" + rule + ", " + what + ")", x.open(rule, what), model.open(rule, what));
-            }
+        }
+        for (int i = 0; i < 9; i++) {
+            int k = below(2) == 0 ? below(2) : near(6);
+            int what = near(3);
+            Checks.due("broken(" + k + ", " + what + ")", x.broken(k, what), model.broken(k, what));
+            Checks.due("open(" + k + ", " + what + ")", x.open(k, what), model.open(k, what));
         }
     }
 
     private long tableOf(int on, int t, int k) {
-        try {
-            return x.table(on, t, k);
-        } catch (IndexOutOfBoundsException e) {
-            return e.getClass() == IndexOutOfBoundsException.class ? Model.THROWS : Model.THROWS + 1;
-        }
+        int got = x.table(on, t, k);
+        return got == Counted.THROWS ? Model.THROWS : got;
     }
 
     private void fish() {
