@@ -43,7 +43,9 @@ public final class LicenceTexts {
 
     private final Edition[] book;
     private int bookSize;
-    private Words tape;
+    // Its words are the tape; the same one is used again until its text is one.
+    private Edition draft;
+    private final TextReader reader;
     private final Facts facts;
     private final Reckoner reckoner;
     private final Findings latest;
@@ -54,7 +56,8 @@ public final class LicenceTexts {
     public LicenceTexts() {
         book = new Edition[MOST_EDITIONS];
         bookSize = 0;
-        tape = new Words();
+        draft = new Edition();
+        reader = new TextReader(draft);
         facts = new Facts();
         reckoner = new Reckoner(facts);
         latest = new Findings();
@@ -64,22 +67,22 @@ public final class LicenceTexts {
     }
 
     public boolean unit(int u) {
-        return tape.append(u);
+        return draft.words.append(u);
     }
 
     public int read(int day) {
         if (!mayBegin(day)) {
             return REFUSED;
         }
-        Edition edition = new Edition(day, tape);
-        int wrong = new TextReader(edition).firstWrong();
+        int wrong = reader.firstWrong(draft);
         if (wrong != NONE) {
-            tape.clear();
+            draft.clear();
             return -1 - wrong;
         }
+        Edition edition = draft;
+        edition.day = day;
         keep(edition);
-        // The edition keeps the words, so the tape goes on with a row of its own.
-        tape = new Words();
+        draft = new Edition();
         return edition.ruleCount;
     }
 
@@ -408,6 +411,10 @@ public final class LicenceTexts {
                 count--;
             }
         }
+
+        void clear() {
+            count = 0;
+        }
     }
 
     /** The tables of a text, in one row. */
@@ -437,6 +444,10 @@ public final class LicenceTexts {
         int lastSize() {
             int last = count - 1;
             return last >= 0 && last < sizes.length ? sizes[last] : 0;
+        }
+
+        void clear() {
+            count = 0;
         }
 
         /** One number more in the table begun last; false when it is full. */
@@ -485,19 +496,26 @@ public final class LicenceTexts {
 
     /** A text that counts from a day on. */
     private static final class Edition {
-        private final int day;
         private final Words words;
         private final Steps steps;
         private final Tables tables;
         private final Rule[] rules;
         private int ruleCount;
+        private int day;
 
-        Edition(int day, Words words) {
-            this.day = day;
-            this.words = words;
+        Edition() {
+            words = new Words();
             steps = new Steps();
             tables = new Tables();
             rules = new Rule[MOST_RULES];
+            ruleCount = 0;
+            day = 0;
+        }
+
+        void clear() {
+            words.clear();
+            steps.clear();
+            tables.clear();
             ruleCount = 0;
         }
 
@@ -550,34 +568,46 @@ public final class LicenceTexts {
         private static final int TERMS = 2;
         private static final int PLACES = 3;
 
-        private final Edition edition;
-        private final Words words;
-        private final Steps steps;
         private final Steps waiting;
+        private Edition edition;
+        private Words words;
+        private Steps steps;
         private int awaited;
         private int around;
         private int relation;
         private boolean needAwaited;
 
-        TextReader(Edition edition) {
-            this.edition = edition;
-            words = edition.words;
-            steps = edition.steps;
+        TextReader(Edition first) {
             waiting = new Steps();
+            edition = first;
+            words = first.words;
+            steps = first.steps;
             awaited = ITEM;
             around = 0;
             relation = NONE;
             needAwaited = false;
         }
 
-        /** The number of the word that is WRONG; NONE when all words are a text. */
-        int firstWrong() {
+        /** The number of the word of an edition that is WRONG; NONE when all words are a text. */
+        int firstWrong(Edition next) {
+            begin(next);
             for (int w = 0; w < words.count; w++) {
                 if (!take(w)) {
                     return w;
                 }
             }
             return awaited == ITEM ? NONE : words.count;
+        }
+
+        private void begin(Edition next) {
+            edition = next;
+            words = next.words;
+            steps = next.steps;
+            waiting.clear();
+            awaited = ITEM;
+            around = 0;
+            relation = NONE;
+            needAwaited = false;
         }
 
         private boolean take(int w) {

@@ -28,6 +28,7 @@ public final class BoundariesTest {
         tableNames();
         nextWords();
         earlyEnds();
+        wrongTextsLeaveNothing();
         editionDays();
         editionCount();
         factValues();
@@ -444,6 +445,39 @@ public final class BoundariesTest {
             dueRead(String.join(" ", words.subList(0, n)), last.equals(";") ? rules : -1 - n);
             dueRead(String.join("\n", words.subList(0, n)) + " \n", last.equals(";") ? rules : -1 - n);
         }
+    }
+
+    /** "there is none then": nothing of a wrong text is met again in the next one. */
+    private static void wrongTextsLeaveNothing() {
+        String cut = "table 7 ; when 1 + 2 * ( at 0 ( 3 - 4 % fact 1 ) + 5 ) <= 6 - 7 and 8 * 9 /= 1 "
+            + "need 1 + 2 * 3 = 4 - ( 5 + at 0 0 ) ; rule 1 - 2";
+        List<String> words = Arrays.asList(cut.split(" "));
+        for (int n = 1; n < words.size(); n++) {
+            Counted x = new Counted();
+            x.feed(String.join(" ", words.subList(0, n)));
+            Checks.due("cut behind word " + n, x.readText(3, " x"), -1 - n);
+            x.fact(0, 9);
+            Checks.due("tables", x.readText(3, "rule at 0 0 = 1 ;"), -1 - 2);
+            Checks.due("the text behind it", x.readText(3, "rule fact 0 - 2 * 3 = 3 ; table 5 6 ; "
+                + "when at 0 1 < 7 need ( 1 + 2 ) * 3 = fact 0 and 1 = 2 ;"), 2);
+            Checks.due("its rules", x.run(3), 2);
+            Checks.due("its first rule", x.explain(0), 0);
+            Checks.due("its second rule", x.explain(1), 1);
+            Checks.due("its second rule's word", x.broken(0, 1), 14);
+            Checks.due("no third rule", x.explain(2), NONE);
+            Checks.due("its table", x.table(3, 0, 1), 6);
+            Checks.due("no more of it", x.table(3, 0, 2), THROWS);
+            Checks.due("no second table", x.table(3, 1, 0), THROWS);
+        }
+        // However many of them there are.
+        Counted often = new Counted();
+        for (int i = 0; i < 16; i++) {
+            Checks.due("a wrong text", often.readText(0, "rule 1 = 1 ; table 1 ; x"), -1 - 8);
+        }
+        Checks.due("the right one", often.readText(0, "rule 1 = 1 ; table 4 ; rule 1 = 2 ;"), 2);
+        Checks.due("its rules", often.run(0), 2);
+        Checks.due("its table", often.table(0, 0, 0), 4);
+        Checks.due("no other table", often.table(0, 1, 0), THROWS);
     }
 
     // "EDITIONS are texts, at most 6, each from a day on (0 .. 100000) until the next one's; before the
