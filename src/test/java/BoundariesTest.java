@@ -469,15 +469,22 @@ public final class BoundariesTest {
             Checks.due("no more of it", x.table(3, 0, 2), THROWS);
             Checks.due("no second table", x.table(3, 1, 0), THROWS);
         }
-        // However many of them there are.
-        Counted often = new Counted();
-        for (int i = 0; i < 16; i++) {
-            Checks.due("a wrong text", often.readText(0, "rule 1 = 1 ; table 1 ; x"), -1 - 8);
+        // The wrong text has more tables and rules than the one that comes behind it.
+        for (int left = 0; left <= 3; left++) {
+            Counted x = new Counted();
+            String wrong = times("table 1 2 3 ; ", 4) + times("rule 1 = 2 ; ", 4) + "x";
+            Checks.due("a wrong text", x.readText(0, wrong), -1 - 40);
+            Checks.due("the right one", x.readText(0, times("table 4 ; ", left) + times("rule 1 = 1 ; ", left)), left);
+            Checks.due("its rules", x.run(0), 0);
+            for (int k = 0; k < 5; k++) {
+                Checks.due("explain(" + k + ")", x.explain(k), k < left ? 0 : NONE);
+                Checks.due("write(" + k + ")", x.write(0, k), k < left ? 10 : NONE);
+                Checks.due("table(" + k + ")", x.table(0, k, 0), k < left ? 4 : THROWS);
+                Checks.due("table(" + k + "), its second", x.table(0, k, 1), THROWS);
+            }
+            Checks.due("a table of the wrong text", x.readText(1, times("table 4 ; ", left) + "rule at " + left
+                + " 0 = 1 ;"), -1 - left * 3 - 2);
         }
-        Checks.due("the right one", often.readText(0, "rule 1 = 1 ; table 4 ; rule 1 = 2 ;"), 2);
-        Checks.due("its rules", often.run(0), 2);
-        Checks.due("its table", often.table(0, 0, 0), 4);
-        Checks.due("no other table", often.table(0, 1, 0), THROWS);
     }
 
     // "EDITIONS are texts, at most 6, each from a day on (0 .. 100000) until the next one's; before the
