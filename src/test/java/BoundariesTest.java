@@ -23,9 +23,12 @@ public final class BoundariesTest {
         tablesOfAText();
         rulesOfAText();
         conditions();
+        manyConditions();
         atomsInOthers();
+        deepestSums();
         factNames();
         tableNames();
+        placesOfAllTables();
         nextWords();
         earlyEnds();
         wrongTextsLeaveNothing();
@@ -280,6 +283,25 @@ public final class BoundariesTest {
         dueWrong("rule (", ")", "= 1 ;");
     }
 
+    /** Each CONDITION of a long rule counts, and none behind the first that does not hold. */
+    private static void manyConditions() {
+        int count = 18;
+        for (int at = 0; at < count; at++) {
+            String held = times("1 = 1 and ", at);
+            String rest = times(" and 1 / 0 = 1", count - at);
+            String all = times(" and 1 = 1", count - at);
+            dueOutcome("rule " + held + "1 = 2" + rest + " ;", 1);
+            dueOutcome("rule " + held + "1 = 2" + all + " ;", 1);
+            dueOpen("rule " + held + "fact 9 = 2" + rest + " ;", 3, 9);
+            dueOutcome("when " + held + "1 = 2" + rest + " need 1 / 0 = 1 ;", 3);
+            dueOpen("when " + held + "fact 9 = 2" + all + " need 1 = 1 ;", 3, 9);
+            dueOutcome("when 1 = 1 need " + held + "1 = 2" + rest + " ;", 1);
+            dueOpen("when 1 = 1 need " + held + "fact 9 = 2" + all + " ;", 3, 9);
+        }
+        dueOutcome("rule 1 = 1" + times(" and 1 = 1", 40) + " ;", 0);
+        dueOutcome("when 1 = 1" + times(" and 1 = 1", 20) + " need 1 = 1" + times(" and 1 = 1", 20) + " ;", 0);
+    }
+
     // "An ATOM may lie in at most 12 others."
 
     private static void atomsInOthers() {
@@ -313,6 +335,28 @@ public final class BoundariesTest {
         dueRead("rule " + times("( ", 11) + "( 1 ) + ( 2 ) * ( 3 )" + times(" )", 11) + " = 7 ;", 1);
         dueRead("rule " + times("( ", 11) + "( 1 ) + ( 2 ) * ( 3", -1 - 22);
         dueWrong("rule " + times("( ", 11) + "( 1 ) + ( 2 ) * ( (", "3", ")");
+    }
+
+    /** As many values as can be wait at once: a SUM and a TERM begun in each bracket, on both sides. */
+    private static void deepestSums() {
+        for (int brackets = 0; brackets <= 12; brackets++) {
+            long value = 1 + 2 * 3;
+            for (int i = 0; i < brackets; i++) {
+                value = 1 + 2 * value;
+            }
+            String sum = times("1 + 2 * ( ", brackets) + "1 + 2 * 3" + times(" )", brackets);
+            dueOutcome("rule fact 0 = " + sum + " ;", 0, value);
+            dueOutcome("rule fact 0 = " + sum + " ;", 1, value + 1);
+            dueOutcome("rule " + sum + " = fact 0 ;", 0, value);
+            dueOutcome("rule " + sum + " = " + sum + " ;", 0);
+            dueOutcome("rule " + sum + " < " + sum + " ;", 1);
+            // A place in each bracket: the table has at every place the next one.
+            String place = "table 1 2 3 4 5 6 7 8 9 0 ; rule " + times("at 0 ", brackets) + "fact 0 = fact 1 ;";
+            for (int first = 0; first < 10; first++) {
+                dueOutcome(place, 0, first, (first + brackets) % 10);
+                dueOutcome(place, 1, first, (first + brackets + 1) % 10);
+            }
+        }
     }
 
     private static void dueTakenAtom(String text, String around, String atom, int brackets) {
@@ -362,6 +406,29 @@ public final class BoundariesTest {
         Checks.due("a table of the edition before", x.readText(1, "rule at 0 0 = 5 ;"), -1 - 2);
         Checks.due("nor one of a wrong text", x.readText(1, "table 5 ; x"), -1 - 3);
         Checks.due("a wrong text's table", x.readText(1, "rule at 0 0 = 5 ;"), -1 - 2);
+    }
+
+    /** at T finds table T, whatever stands behind the rule. */
+    private static void placesOfAllTables() {
+        for (int tables = 1; tables <= 8; tables++) {
+            StringBuilder text = new StringBuilder();
+            for (int t = 0; t < tables; t++) {
+                text.append("table ").append(10 + t).append(" ").append(20 + t).append(" ; ");
+                text.append("rule at ").append(t).append(" fact 0 = fact 1 + ").append(t).append(" ; ");
+            }
+            Counted x = Counted.with(text.toString());
+            for (int place = 0; place < 2; place++) {
+                x.fact(0, place);
+                x.fact(1, 10 + place * 10);
+                Checks.due(tables + " tables, place " + place, x.run(0), 0);
+                x.fact(1, 11 + place * 10);
+                Checks.due(tables + " tables, not place " + place, x.run(0), 1);
+                Checks.due("the last one too", x.broken(tables - 1, 0), tables - 1);
+            }
+            x.fact(0, 2);
+            x.run(0);
+            Checks.due("no third place", x.open(tables - 1, 1), 2);
+        }
     }
 
     // "WRONG is the first word with which no text goes on"

@@ -33,7 +33,7 @@ public final class PromisesTest {
     // Promise 1
 
     private static void newObject() {
-        LicenceTexts x = new LicenceTexts();
+        Counted x = new Counted();
         Checks.due("new: editions", x.editions(), 0);
         Checks.due("new: clearFacts", x.clearFacts(), 0);
         Checks.due("new: run", x.run(100000), 0);
@@ -46,7 +46,7 @@ public final class PromisesTest {
         }
         Checks.due("NONE", NONE, -1);
         Checks.due("REFUSED", REFUSED, -1000);
-        LicenceTexts y = Checks.with("rule 1 = 2 ;");
+        Counted y = Counted.with("rule 1 = 2 ;");
         y.run(0);
         Checks.due("objects share nothing", x.editions() + x.run(0), 0);
     }
@@ -77,13 +77,29 @@ public final class PromisesTest {
         Checks.due("its first word", full.run(0) * 100 + full.broken(0, 1), 103);
         full.write(0, 0);
         Checks.due("a full tape's rule", Checks.writtenText(full), "rule 1 = 2");
+        fullTapes();
+    }
+
+    private static void fullTapes() {
+        LicenceTexts again = new LicenceTexts();
+        Checks.due("a wrong text", Checks.readText(again, 1, "y"), -1);
+        for (int i = 0; i < 800; i++) {
+            Checks.due("its tape is empty", again.unit('z'), true);
+        }
+        Checks.due("one long word", again.read(1), -1);
+
+        String rule = "rule " + Checks.repeated("1 + ", 196) + "1 = 199";
+        LicenceTexts large = Checks.with(rule + " ;");
+        Checks.due("a rule that fills the tape", large.write(0, 0), rule.length());
+        Checks.due("a rule that fills the tape", Checks.writtenText(large), rule);
+        Checks.due("it is reckoned", large.run(0), 1);
     }
 
     // Promise 3
 
     private static void dueRead(String text, int want) {
-        LicenceTexts x = new LicenceTexts();
-        Checks.due("read of '" + text + "'", Checks.readText(x, 7, text), want);
+        Counted x = new Counted();
+        Checks.due("read of '" + text + "'", x.readText(7, text), want);
         Checks.due("editions after '" + text + "'", x.editions(), want < 0 ? 0 : 1);
         Checks.due("the tape after '" + text + "'", x.read(8), 0);
     }
@@ -206,44 +222,41 @@ public final class PromisesTest {
             + "at 0 0", -103);
         dueRead("table 0 ; rule " + Checks.repeated("( at 0 0 ) + ", 14) + Checks.repeated("( ", 12)
             + "1 " + Checks.repeated(") ", 12) + "= 0 ;", 1);
-        dueRead("rule " + Checks.repeated("1 + ", 190) + "1 = 191 ;", 1);
+        dueRead("rule " + Checks.repeated("1 + ", 120) + "1 = 121 ;", 1);
     }
 
     private static void readRefuses() {
-        LicenceTexts x = new LicenceTexts();
-        Checks.feed(x, "rule 1 = 1 ;");
+        Counted x = new Counted();
+        x.feed("rule 1 = 1 ;");
         Checks.due("read below 0", x.read(-1), REFUSED);
         Checks.due("read above the last day", x.read(100001), REFUSED);
         Checks.due("read far below", x.read(Integer.MIN_VALUE), REFUSED);
         Checks.due("the tape stays", x.read(50), 1);
-        Checks.feed(x, "rule 1 = 1 ; rule 2 = 2 ;");
+        x.feed("rule 1 = 1 ; rule 2 = 2 ;");
         Checks.due("read of the same day", x.read(50), REFUSED);
         Checks.due("read of an earlier day", x.read(49), REFUSED);
         Checks.due("editions", x.editions(), 1);
         Checks.due("read of the next day", x.read(51), 2);
-        Checks.due("wrong word", Checks.readText(x, 100000, "rule 1 = 1 ; y"), -6);
+        Checks.due("wrong word", x.readText(100000, "rule 1 = 1 ; y"), -6);
         Checks.due("no edition of a wrong text", x.read(52), 0);
         x.read(53);
         x.read(54);
         Checks.due("the last day", x.read(100000), 0);
         Checks.due("six", x.editions(), 6);
-        Checks.feed(x, "y");
+        x.feed("y");
         Checks.due("none above the last day", x.read(100001), REFUSED);
 
-        LicenceTexts again = new LicenceTexts();
-        Checks.due("a wrong text", Checks.readText(again, 0, "rule 1 = 1 ; table"), -7);
-        Checks.due("nothing of it stays", Checks.readText(again, 0, "rule 1 = 2 ;"), 1);
-        Checks.due("a wrong text again", Checks.readText(again, 1, "y"), -1);
-        for (int i = 0; i < 800; i++) {
-            Checks.due("its tape is empty", again.unit('z'), true);
-        }
-        Checks.due("one long word", again.read(1), -1);
+        Counted again = new Counted();
+        Checks.due("a wrong text", again.readText(0, "rule 1 = 1 ; table"), -7);
+        Checks.due("nothing of it stays", again.readText(0, "rule 1 = 2 ;"), 1);
+        Checks.due("a wrong text again", again.readText(1, "y"), -1);
+        Checks.due("its tape is empty", again.read(1), 0);
 
-        LicenceTexts six = new LicenceTexts();
+        Counted six = new Counted();
         for (int d = 0; d < 6; d++) {
             Checks.due("day " + d, six.read(d), 0);
         }
-        Checks.feed(six, "y");
+        six.feed("y");
         Checks.due("a seventh", six.read(6), REFUSED);
         Checks.due("still six", six.editions(), 6);
     }
@@ -251,11 +264,11 @@ public final class PromisesTest {
     // Promise 4
 
     private static void editions() {
-        LicenceTexts x = new LicenceTexts();
+        Counted x = new Counted();
         Checks.due("editions", x.editions(), 0);
         x.read(3);
         Checks.due("editions", x.editions(), 1);
-        Checks.readText(x, 4, "table");
+        x.readText(4, "table");
         Checks.due("editions", x.editions(), 1);
         x.read(3);
         Checks.due("editions", x.editions(), 1);
@@ -266,7 +279,7 @@ public final class PromisesTest {
     // Promise 5
 
     private static void fact() {
-        LicenceTexts x = Checks.with("rule fact 0 = 5 ; rule fact 19 = 6 ;");
+        Counted x = Counted.with("rule fact 0 = 5 ; rule fact 19 = 6 ;");
         Checks.due("fact 0", x.fact(0, 5), true);
         Checks.due("fact 19", x.fact(19, 7), true);
         Checks.due("run", x.run(0), 2);
@@ -283,7 +296,7 @@ public final class PromisesTest {
     // Promise 6
 
     private static void clearFacts() {
-        LicenceTexts x = Checks.with("rule fact 3 = 0 ;");
+        Counted x = Counted.with("rule fact 3 = 0 ;");
         for (int name = 0; name < 20; name++) {
             x.fact(name, 0);
         }
@@ -299,11 +312,11 @@ public final class PromisesTest {
     // Promise 7
 
     private static void run() {
-        LicenceTexts x = new LicenceTexts();
-        Checks.readText(x, 10, "rule 1 = 1 ; rule fact 0 = 1 ; rule 1 = 2 ; rule 1 = 3 ;");
-        Checks.readText(x, 20, "rule fact 0 = 1 ;");
+        Counted x = new Counted();
+        x.readText(10, "rule 1 = 1 ; rule fact 0 = 1 ; rule 1 = 2 ; rule 1 = 3 ;");
+        x.readText(20, "rule fact 0 = 1 ;");
         x.read(30);
-        Checks.readText(x, 40, "rule fact 0 = 1 ; rule 2 < 1 ;");
+        x.readText(40, "rule fact 0 = 1 ; rule 2 < 1 ;");
         Checks.due("before the first", x.run(9), 0);
         Checks.due("far before", x.run(Integer.MIN_VALUE), 0);
         Checks.due("the first", x.run(10), 3);
@@ -320,7 +333,7 @@ public final class PromisesTest {
     }
 
     private static int judged(String condition) {
-        LicenceTexts x = Checks.with("rule " + condition + " ;");
+        Counted x = Counted.with("rule " + condition + " ;");
         x.fact(0, Long.MAX_VALUE);
         x.fact(1, Long.MIN_VALUE);
         x.fact(2, -7);
@@ -371,7 +384,7 @@ public final class PromisesTest {
     }
 
     private static void dueOpen(String text, int reason, int untold) {
-        LicenceTexts x = Checks.with(text);
+        Counted x = Counted.with(text);
         x.fact(0, 0);
         x.fact(1, 1);
         Checks.due("run of '" + text + "'", x.run(0), -1);
@@ -381,7 +394,7 @@ public final class PromisesTest {
     }
 
     private static void dueOutcome(String text, int outcome) {
-        LicenceTexts x = Checks.with(text);
+        Counted x = Counted.with(text);
         x.fact(0, 0);
         x.fact(1, 1);
         x.run(0);
@@ -422,9 +435,9 @@ public final class PromisesTest {
     // Promise 8
 
     private static void walk() {
-        LicenceTexts x = new LicenceTexts();
-        Checks.readText(x, 10, "rule 1 = 1 ; rule fact 0 = 1 ; rule 1 = 2 ;");
-        Checks.readText(x, 20, "rule fact 0 = 1 ;");
+        Counted x = new Counted();
+        x.readText(10, "rule 1 = 1 ; rule fact 0 = 1 ; rule 1 = 2 ;");
+        x.readText(20, "rule fact 0 = 1 ;");
         Checks.due("walk before a run", x.walk(10), 3);
         Checks.due("it finds nothing", x.explain(0), NONE);
         x.run(10);
@@ -446,9 +459,9 @@ public final class PromisesTest {
     // Promise 9
 
     private static void broken() {
-        LicenceTexts x = new LicenceTexts();
-        Checks.readText(x, 0, "table 1 2 ; rule 1 = 1 ; rule 1 = 2 ; rule fact 0 = 1 ; when 1 = 1 need 1 = 2 ;");
-        Checks.readText(x, 5, "rule 1 = 2 ;");
+        Counted x = new Counted();
+        x.readText(0, "table 1 2 ; rule 1 = 1 ; rule 1 = 2 ; rule fact 0 = 1 ; when 1 = 1 need 1 = 2 ;");
+        x.readText(5, "rule 1 = 2 ;");
         x.run(0);
         Checks.due("first broken", x.broken(0, 0), 1);
         Checks.due("its word", x.broken(0, 1), 9);
@@ -462,7 +475,7 @@ public final class PromisesTest {
             Checks.due("far k, word", x.broken(far, 1), NONE);
             Checks.due("far what", x.broken(0, far), NONE);
         }
-        Checks.readText(x, 9, "rule 1 = 1 ;");
+        x.readText(9, "rule 1 = 1 ;");
         x.fact(0, 2);
         Checks.due("it stays", x.broken(1, 0), 3);
         x.run(5);
@@ -475,7 +488,7 @@ public final class PromisesTest {
     // Promise 10
 
     private static void open() {
-        LicenceTexts x = Checks.with(
+        Counted x = Counted.with(
             "table 1 ; rule 1 = 1 ; rule fact 4 = 1 ; rule 1 / 0 = 1 ; rule 1 = 2 ; rule at 0 1 = 1 ;");
         x.run(0);
         int[][] want = {{1, 3, 4}, {2, 1, NONE}, {4, 2, NONE}, {NONE, NONE, NONE}};
@@ -500,7 +513,7 @@ public final class PromisesTest {
     // Promise 11
 
     private static void explain() {
-        LicenceTexts x = Checks.with(
+        Counted x = Counted.with(
             "rule 1 = 1 ; rule 1 = 2 ; rule fact 0 = 1 ; when 1 = 2 need 1 = 2 ; when 1 = 1 need 1 = 1 ;");
         Checks.due("before a run", x.explain(0), NONE);
         x.run(0);
@@ -518,21 +531,15 @@ public final class PromisesTest {
 
     // Promise 12
 
-    private static boolean throwsBounds(LicenceTexts x, int day, int t, int k) {
-        try {
-            x.table(day, t, k);
-            return false;
-        } catch (IndexOutOfBoundsException e) {
-            // One that the machine throws would be a class below it.
-            return e.getClass() == IndexOutOfBoundsException.class;
-        }
+    private static boolean throwsBounds(Counted x, int day, int t, int k) {
+        return x.table(day, t, k) == Counted.THROWS;
     }
 
     private static void table() {
-        LicenceTexts x = new LicenceTexts();
+        Counted x = new Counted();
         Checks.due("no edition", throwsBounds(x, 0, 0, 0), true);
-        Checks.readText(x, 3, "table 4 05 ; table 999999999 ;");
-        Checks.readText(x, 6, "table 1 2 3 4 5 6 7 8 9 10 ;");
+        x.readText(3, "table 4 05 ; table 999999999 ;");
+        x.readText(6, "table 1 2 3 4 5 6 7 8 9 10 ;");
         Checks.due("table(3, 0, 0)", x.table(3, 0, 0), 4);
         Checks.due("table(5, 0, 1)", x.table(5, 0, 1), 5);
         Checks.due("table(5, 1, 0)", x.table(5, 1, 0), 999999999);
@@ -553,8 +560,8 @@ public final class PromisesTest {
     // Promise 13
 
     private static void allowed() {
-        LicenceTexts x = new LicenceTexts();
-        Checks.readText(x, 5, "table 3 5 8 ; rule fact 0 <= at 0 fact 1 ; when 10 <= fact 0 need 1 = 2 ;");
+        Counted x = new Counted();
+        x.readText(5, "table 3 5 8 ; rule fact 0 <= at 0 fact 1 ; when 10 <= fact 0 need 1 = 2 ;");
         Checks.due("before the first", x.allowed(4, 0, 20), 20);
         Checks.due("open whatever fact 0 is", x.allowed(5, 0, 20), NONE);
         x.fact(1, 1);
@@ -576,11 +583,11 @@ public final class PromisesTest {
             Checks.due("far fact", x.allowed(4, far, 3), NONE);
             Checks.due("far most", x.allowed(4, 0, far), NONE);
         }
-        LicenceTexts gaps = Checks.with("rule fact 2 % 7 = 3 ;");
+        Counted gaps = Counted.with("rule fact 2 % 7 = 3 ;");
         Checks.due("with gaps", gaps.allowed(0, 2, 20), 17);
         Checks.due("with gaps, less", gaps.allowed(0, 2, 16), 10);
         Checks.due("with gaps, none", gaps.allowed(0, 2, 2), NONE);
-        Checks.due("the only one", Checks.with("rule fact 2 = 0 ;").allowed(0, 2, 20), 0);
+        Checks.due("the only one", Counted.with("rule fact 2 = 0 ;").allowed(0, 2, 20), 0);
         gaps.fact(2, 10);
         gaps.allowed(0, 2, 20);
         Checks.due("the fact's value stays", gaps.run(0), 0);
@@ -588,17 +595,17 @@ public final class PromisesTest {
 
     // Promises 14 and 15
 
-    private static void dueWritten(LicenceTexts x, int day, int k, String want) {
+    private static void dueWritten(Counted x, int day, int k, String want) {
         Checks.due("write(" + day + ", " + k + ")", x.write(day, k), want.length());
-        Checks.due("written", Checks.writtenText(x), want);
+        Checks.due("written", x.line(), want);
     }
 
     private static void write() {
-        LicenceTexts x = new LicenceTexts();
+        Counted x = new Counted();
         Checks.due("no edition", x.write(0, 0), NONE);
-        Checks.readText(x, 3, "\n table 1 ;\n rule  007 <= \n( 3 +  at 00 4 )\n;"
+        x.readText(3, "\n table 1 ;\n rule  007 <= \n( 3 +  at 00 4 )\n;"
             + " table 2 ; when fact 1 /= 2 need 3 % 4 = 5 and 1 < 2 ;");
-        Checks.readText(x, 5, "rule 1 = 1 ;");
+        x.readText(5, "rule 1 = 1 ;");
         dueWritten(x, 3, 0, "rule 007 <= ( 3 + at 00 4 )");
         dueWritten(x, 4, 1, "when fact 1 /= 2 need 3 % 4 = 5 and 1 < 2");
         dueWritten(x, Integer.MAX_VALUE, 0, "rule 1 = 1");
@@ -608,17 +615,13 @@ public final class PromisesTest {
         for (int far : FAR) {
             Checks.due("far rule", x.write(5, far), NONE);
         }
-        Checks.due("what was written stays", Checks.writtenText(x), "rule 1 = 1");
-        Checks.readText(x, 6, "rule 2 = 2 ;");
+        Checks.due("what was written stays", x.line(), "rule 1 = 1");
+        x.readText(6, "rule 2 = 2 ;");
         dueWritten(x, 5, 0, "rule 1 = 1");
-
-        String most = "rule " + Checks.repeated("1 + ", 196) + "1 = 199 ;";
-        LicenceTexts large = Checks.with(most);
-        dueWritten(large, 0, 0, most.substring(0, most.length() - 2));
     }
 
     private static void written() {
-        LicenceTexts x = Checks.with("rule 1 = 1 ; rule 10 = 1 ;");
+        Counted x = Counted.with("rule 1 = 1 ; rule 10 = 1 ;");
         Checks.due("before write", x.written(0), NONE);
         Checks.due("write", x.write(0, 1), 11);
         Checks.due("the first byte", x.written(0), 'r');
@@ -636,7 +639,7 @@ public final class PromisesTest {
     // Promise 16
 
     private static void haul() {
-        LicenceTexts x = new LicenceTexts();
+        Counted x = new Counted();
         Checks.due("least", x.haul(0, 0, 1), true);
         Checks.due("most", x.haul(9, 7, 1000000000L), true);
         Checks.due("no grams", x.haul(1, 0, 0), false);
@@ -657,13 +660,13 @@ public final class PromisesTest {
 
     // Promise 17
 
-    private static void dueShare(LicenceTexts x, int haul, int kind, long above, long below) {
+    private static void dueShare(Counted x, int haul, int kind, long above, long below) {
         Checks.due("above of " + haul + ", " + kind, x.byCatch(haul, kind, 0), above);
         Checks.due("below of " + haul + ", " + kind, x.byCatch(haul, kind, 1), below);
     }
 
     private static void byCatch() {
-        LicenceTexts x = new LicenceTexts();
+        Counted x = new Counted();
         x.haul(3, 0, 6);
         x.haul(3, 1, 10);
         x.haul(3, 0, 8);
